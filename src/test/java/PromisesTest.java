@@ -25,7 +25,9 @@ public final class PromisesTest {
         firstExceptionWins();
         readiness();
         serviceComesFirst();
+        queuesKeepTheirOrder();
         returnGoesRound();
+        returnWaitsForService();
         grantGoesRound();
         grantByClass();
         classGrowsWithAge();
@@ -312,6 +314,41 @@ public final class PromisesTest {
             int n = i;
             Check.due("service first: target 0 before 1 before 2", 16 * i, () -> y.service(n, 3));
         }
+    }
+
+    private static void queuesKeepTheirOrder() {
+        SplitFabric x = new SplitFabric();
+        int[] order = {0, 2, 3, 2};
+        x.issue(2, WRITE, 3, 1, 0);
+        x.issue(2, WRITE, 4, 1, 1);
+        x.issue(3, READ, 3, 1, 0);
+        x.issue(0, READ, 3, 1, 0);
+        dueCycles("queue", x, order);
+        x.ready(0, true);
+        for (int i = 0; i < order.length; i++) {
+            int n = i;
+            x.cycle();
+            Check.due("queue: one a cycle", i + 1, x::served);
+            Check.due("queue: in the order of the grants", order[i], () -> x.service(n, 0));
+        }
+        x.cycle();
+        Check.due("queue: none is left", 4, x::served);
+    }
+
+    private static void returnWaitsForService() {
+        SplitFabric x = readyFabric();
+        x.issue(0, READ, 0, 2, 0);
+        x.cycles(4);
+        x.take(0, 0);
+        x.ready(0, false);
+        x.issue(0, READ, 0, 2, 0);
+        x.cycles(9);
+        dueState("return: no answer before the service, by a tag used again", x, 0, 0, GRANTED);
+        x.ready(0, true);
+        x.cycle();
+        dueState("return: one word of two, by a tag used again", x, 0, 0, GRANTED);
+        x.cycle();
+        dueState("return: the second word", x, 0, 0, DONE);
     }
 
     private static void returnGoesRound() {
