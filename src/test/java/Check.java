@@ -2,6 +2,7 @@
 final class Check {
     private static int wrong = 0;
     private static int asked = 0;
+    private static String sentence = "";
 
     private Check() {
     }
@@ -23,12 +24,17 @@ final class Check {
         }
     }
 
+    /** The words of the document that the answers from now on are due by. */
+    static void sentence(String words) {
+        sentence = "\"" + words + "\": ";
+    }
+
     static void due(String what, Object want, Call call) {
         asked++;
         String got = answerOf(call);
         if (!got.equals(String.valueOf(want))) {
             wrong++;
-            System.out.println(what + " answered " + got + ", due is " + want);
+            System.out.println(sentence + what + " answered " + got + ", due is " + want);
         }
     }
 

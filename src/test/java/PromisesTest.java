@@ -1,19 +1,5 @@
 /** Each promise of the document by hand: ordinary inputs, the edges that it names, and wrong inputs. */
-public final class PromisesTest {
-    private static final int READ = SplitFabric.READ;
-    private static final int WRITE = SplitFabric.WRITE;
-    private static final int LOCK = SplitFabric.LOCK;
-    private static final int UNLOCK = SplitFabric.UNLOCK;
-    private static final int BARRIER = SplitFabric.BARRIER;
-    private static final int FREE = SplitFabric.FREE;
-    private static final int WAITING = SplitFabric.WAITING;
-    private static final int GRANTED = SplitFabric.GRANTED;
-    private static final int DONE = SplitFabric.DONE;
-    private static final int FAILED = SplitFabric.FAILED;
-    private static final int NONE = SplitFabric.NONE;
-    private static final int[] NO_MASTER = {-1, 4, Integer.MIN_VALUE, Integer.MAX_VALUE};
-    private static final int[] NO_TARGET = {-1, 3, Integer.MIN_VALUE, Integer.MAX_VALUE};
-
+public final class PromisesTest extends Kit {
     public static void main(String[] args) {
         newObject();
         dataWords();
@@ -53,31 +39,6 @@ public final class PromisesTest {
         throwingChangesNothing();
         useToTheEnd();
         Check.end();
-    }
-
-    private static SplitFabric readyFabric() {
-        SplitFabric x = new SplitFabric();
-        for (int target = 0; target < 3; target++) {
-            x.ready(target, true);
-        }
-        return x;
-    }
-
-    private static void dueCycles(String where, SplitFabric x, int... granted) {
-        for (int i = 0; i < granted.length; i++) {
-            Check.due(where + ", cycle " + i, granted[i], x::cycle);
-        }
-    }
-
-    private static void dueState(String where, SplitFabric x, int master, int tag, int want) {
-        Check.due(where + ", state(" + master + ", " + tag + ")", want, () -> x.state(master, tag));
-    }
-
-    private static void write(SplitFabric x, int address, int word) {
-        x.data(3, 0, word);
-        x.issue(3, WRITE, address, 1, 3);
-        x.cycles(2);
-        x.take(3, 3);
     }
 
     // Promise 1
