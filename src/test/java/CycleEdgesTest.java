@@ -11,6 +11,7 @@ public final class CycleEdgesTest extends Kit {
         returnBeginsWithZero();
         returnGoesRoundAndRound();
         returnByOneTagAlone();
+        returnByATagUsedAgain();
         returnKeepsItsTurn();
         doneWithTheLastWord();
         everyWordOfAFullFabric();
@@ -244,6 +245,23 @@ public final class CycleEdgesTest extends Kit {
         dueState("three words of the only tag", x, 3, 3, GRANTED);
         x.cycle();
         dueState("the fourth, round to the same tag", x, 3, 3, DONE);
+    }
+
+    private static void returnByATagUsedAgain() {
+        Check.sentence("of all tags that have an answer of which not all words were returned");
+        SplitFabric x = readyFabric();
+        x.issue(1, READ, 0, 3, 2);
+        x.cycles(4);
+        x.take(1, 2);
+        x.ready(0, false);
+        x.issue(1, READ, 0, 3, 2);
+        x.cycles(20);
+        dueState("it has no answer yet", x, 1, 2, GRANTED);
+        x.ready(0, true);
+        x.cycles(2);
+        dueState("two words of three", x, 1, 2, GRANTED);
+        x.cycle();
+        dueState("three words of three", x, 1, 2, DONE);
     }
 
     private static void returnKeepsItsTurn() {
@@ -591,5 +609,18 @@ public final class CycleEdgesTest extends Kit {
         dueWaits("granted", x, 1, NONE);
         x.issue(0, READ, 3, 1, 1);
         dueWaits("issued behind these cycles", x, 0, 0);
+        everyTagAges();
+    }
+
+    private static void everyTagAges() {
+        for (int place = 0; place < 16; place++) {
+            int master = place / 4;
+            SplitFabric x = new SplitFabric();
+            x.issue((master + 1) % 4, LOCK, 0, 1, 0);
+            x.cycle();
+            x.issue(master, READ, 1, 1, place % 4);
+            x.cycles(7);
+            dueWaits("tag " + place % 4, x, master, 7);
+        }
     }
 }

@@ -54,6 +54,7 @@ public final class RefusedCallsTest extends Kit {
         then(x -> x.data(0, 0, 11));
         then(x -> x.data(0, 3, 14));
         then(x -> x.issue(0, WRITE, 0, 4, 0));
+        then(x -> x.data(0, 0, 12));
         then(x -> x.issue(0, READ, 2, 2, 1));
         then(x -> x.issue(0, READ, 60, 2, 2));
         then(x -> x.issue(1, LOCK, 16, 1, 0));
@@ -64,6 +65,7 @@ public final class RefusedCallsTest extends Kit {
         then(x -> x.base(3, 1));
         then(x -> x.issue(3, READ, 4, 4, 0));
         then(x -> x.issue(3, WRITE, 5, 1, 1));
+        then(x -> x.data(3, 0, 13));
         then(x -> x.issue(3, BARRIER, 0, 0, 2));
         cycles(4);
         then(x -> x.ready(0, true));
@@ -143,9 +145,13 @@ public final class RefusedCallsTest extends Kit {
     }
 
     private void compareAll() {
-        List<String> plain = answers(run.size(), null);
-        for (int i = 0; i < extra.size(); i++) {
-            for (int place = 0; place <= run.size(); place++) {
+        List<String> thrown = new ArrayList<>();
+        follow(new SplitFabric(), 0, run.size(), thrown);
+        thrown.removeIf(answer -> !answer.startsWith("throws."));
+        Check.due("the plain run's own refused calls", "[]", () -> thrown);
+        for (int place = 0; place <= run.size(); place++) {
+            List<String> plain = answers(place, null);
+            for (int i = 0; i < extra.size(); i++) {
                 refused += compare(plain, i, place);
             }
         }
@@ -166,19 +172,25 @@ public final class RefusedCallsTest extends Kit {
     private List<String> answers(int place, Step more) {
         SplitFabric x = new SplitFabric();
         List<String> all = new ArrayList<>();
-        for (int i = 0; i <= run.size(); i++) {
-            if (i == place && more != null && !Check.answerOf(() -> more.on(x)).startsWith("throws.")) {
-                return null;
-            }
-            if (i < run.size()) {
-                Step step = run.get(i);
-                all.add(Check.answerOf(() -> step.on(x)));
-            }
+        follow(x, 0, place, all);
+        if (more != null && !Check.answerOf(() -> more.on(x)).startsWith("throws.")) {
+            return null;
         }
         look(x, all);
+        follow(x, place, run.size(), all);
+        look(x, all);
+        lookAtAnswers(x, all);
         drain(x, all);
         look(x, all);
+        lookAtWords(x, all);
         return all;
+    }
+
+    private void follow(SplitFabric x, int from, int to, List<String> all) {
+        for (int i = from; i < to; i++) {
+            Step step = run.get(i);
+            all.add(Check.answerOf(() -> step.on(x)));
+        }
     }
 
     /** What is held in no answer yet shows here: data words, base classes, turns. */
@@ -217,6 +229,18 @@ public final class RefusedCallsTest extends Kit {
         for (int target = 0; target < 3; target++) {
             all.add("target " + x.credits(target) + " " + x.holder(target));
         }
+    }
+
+    /** Only at the end of the run: this may throw, and the plain run is to be free of calls that do. */
+    private static void lookAtAnswers(SplitFabric x, List<String> all) {
+        for (int n = 0; n < 16; n++) {
+            int master = n / 4;
+            int tag = n % 4;
+            all.add("word " + Check.answerOf(() -> x.word(master, tag, 0)));
+        }
+    }
+
+    private static void lookAtWords(SplitFabric x, List<String> all) {
         for (int address = 0; address < 48; address++) {
             all.add("memory " + x.memory(address));
         }
