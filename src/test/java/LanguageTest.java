@@ -201,7 +201,8 @@ public final class LanguageTest {
     /** The lines of a method go from its header to the brace that stands as far in as the header. */
     private static List<String> longMethods(String code) {
         List<String> broken = new ArrayList<>();
-        for (String method : all("(?m)^( {4}| {8})(?!.*\\bclass\\b)\\w[^;={}]*\\) ?[^;={}]*\\{\n[^\0]*?^\\1\\}$", code)) {
+        String whole = "(?m)^( {4}| {8})(?!.*\\bclass\\b)\\w[^;={}]*\\) ?[^;={}]*\\{\n[^\0]*?^\\1\\}$";
+        for (String method : all(whole, code)) {
             if (method.split("\n").length > 60) {
                 broken.add(method.split("\n")[0].trim());
             }

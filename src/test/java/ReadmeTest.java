@@ -64,8 +64,10 @@ public final class ReadmeTest {
     }
 
     private static void run(Path made, List<String> lines) throws IOException, ReflectiveOperationException {
-        BiConsumer<Integer, Object> told = (at, got) ->
-                Check.due("README.md, line " + (at + 1) + ", " + callOf(lines.get(at)), wantOf(lines.get(at)), () -> got);
+        BiConsumer<Integer, Object> told = (at, got) -> {
+            String line = lines.get(at);
+            Check.due("README.md, line " + (at + 1) + ", " + callOf(line), wantOf(line), () -> got);
+        };
         try (URLClassLoader loader = new URLClassLoader(new URL[] {made.toUri().toURL()})) {
             loader.loadClass("Examples").getMethod("run", BiConsumer.class).invoke(null, told);
         } catch (InvocationTargetException e) {
